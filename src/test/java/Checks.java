@@ -1,4 +1,5 @@
 import java.util.NoSuchElementException;
+import java.util.Set;
 import java.util.function.Consumer;
 import java.util.function.Supplier;
 import java.util.function.ToLongFunction;
@@ -9,6 +10,7 @@ final class Checks {
     static final Class<IllegalArgumentException> ARGUMENT = IllegalArgumentException.class;
     static final Class<IllegalStateException> STATE = IllegalStateException.class;
     static final Class<NoSuchElementException> ELEMENT = NoSuchElementException.class;
+    private static final Set<Class<?>> PROMISED = Set.of(INDEX, ARGUMENT, STATE, ELEMENT);
 
     private static int made = 0;
     private static int wrong = 0;
@@ -58,6 +60,9 @@ final class Checks {
         try {
             return Long.toString(call.applyAsLong(x));
         } catch (RuntimeException e) {
+            if (!PROMISED.contains(e.getClass())) {
+                fail("a call threw " + e);
+            }
             return "throws." + e.getClass().getSimpleName();
         }
     }

@@ -11,6 +11,10 @@ public final class MessagesTest {
         capacityChanged();
         throughAStation();
         noWay();
+        for (int minute : new int[] {0, 1, 200, 358, 359, 360, 761}) {
+            justInTime(minute);
+        }
+        fullRing();
         manyHops();
         refusals();
         Checks.end();
@@ -268,6 +272,58 @@ public final class MessagesTest {
         Checks.due("pass(1) to its goal", 1, x.pass(1));
         Checks.due("arrivedAt(0)", 74, x.arrivedAt(0));
         Checks.due("blocked(0) at 74", 1, x.blocked(0));
+    }
+
+    /** The way from station 0 to station 1 takes 400 minutes if it starts at the minute, and else too long. */
+    private static void justInTime(int minute) {
+        int[][] relays = {{107, 2}, {108, -6}, {155, -5}};
+        Satellitering x = new Satellitering();
+        for (int place : new int[] {306, 359, 354, 8}) {
+            x.addStation(place);
+        }
+        for (int[] r : relays) {
+            // as they were first reckoned, the minute was 267
+            x.addRelay(Math.floorMod(r[0] + r[1] * (267 - minute), 360), r[1], 0, 1);
+        }
+        Checks.due("arrival at " + minute, minute + 400, x.arrival(0, 1, minute));
+        Checks.due("arrival at " + (minute + 1), -1, x.arrival(0, 1, minute + 1));
+        passAll(x, minute);
+        x.send(0, 1);
+        x.pass(1);
+        Checks.due("hops(0) at " + (minute + 1), 1, x.hops(0));
+        x.send(0, 1);
+        x.pass(1);
+        Checks.due("hops(1) at " + (minute + 2), 0, x.hops(1));
+        passAll(x, 397);
+        Checks.due("the last pass(1) after " + minute, 1, x.pass(1));
+        Checks.due("arrivedAt(0)", minute + 400, x.arrivedAt(0));
+    }
+
+    /** All nodes and messages there can be: only the last station and the last relay are in use. */
+    private static void fullRing() {
+        Satellitering x = new Satellitering();
+        for (int i = 0; i < 5; i++) {
+            x.addRelay(100 + i, 0, 0, 1);
+        }
+        for (int i = 0; i < 3; i++) {
+            x.addStation(200 + 20 * i);
+        }
+        Checks.due("the last station", 8, x.addStation(5));
+        Checks.due("the last relay", 9, x.addRelay(10, 0, 179, 9));
+        for (int i = 0; i < 20; i++) {
+            x.send(8, 7);
+        }
+        Checks.due("arrival(8, 7, 0)", 2, x.arrival(8, 7, 0));
+        Checks.due("arrivalByFlooding(8, 7, 0)", 2, x.arrivalByFlooding(8, 7, 0));
+        // a reach of 179 sees every station here; relays of reach 0 see none
+        Checks.due("spread(8, 0, 2)", 5, x.spread(8, 0, 2));
+        Checks.due("pass(1) of a full ring", 0, x.pass(1));
+        Checks.due("load(9)", 9, x.load(9));
+        Checks.due("blocked(19)", 1, x.blocked(19));
+        Checks.due("pass(30) of a full ring", 20, x.pass(30));
+        Checks.due("load(7)", 20, x.load(7));
+        Checks.due("arrivedAt(19)", 4, x.arrivedAt(19));
+        Checks.due("relayOf(8)", 9, x.relayOf(8));
     }
 
     /** Full relays block one another, and some messages are handed to and fro: their hops are all kept. */
