@@ -36,7 +36,7 @@ public final class Satellitering {
 
     // ---- nodes
 
-    public int addStation(int place) {
+    public int addStation(int place) throws IllegalArgumentException, IllegalStateException {
         requireArgument(inRange(place, 0, PLACES - 1));
         if (stationCount >= MAX_STATIONS) {
             throw new IllegalStateException("there are 4 stations");
@@ -49,7 +49,8 @@ public final class Satellitering {
         return node;
     }
 
-    public int addRelay(int place, int speed, int reach, int capacity) {
+    public int addRelay(int place, int speed, int reach, int capacity)
+            throws IllegalArgumentException, IllegalStateException {
         requireArgument(inRange(place, 0, PLACES - 1));
         requireArgument(inRange(speed, -MAX_SPEED, MAX_SPEED));
         requireArgument(inRange(reach, 0, MAX_REACH));
@@ -63,7 +64,7 @@ public final class Satellitering {
         return node;
     }
 
-    public int setCapacity(int relay, int capacity) {
+    public int setCapacity(int relay, int capacity) throws IndexOutOfBoundsException, IllegalArgumentException {
         requireNode(relay);
         if (stations[relay] != null) {
             throw new IndexOutOfBoundsException("the node is a station");
@@ -78,7 +79,7 @@ public final class Satellitering {
         return sky.count;
     }
 
-    public int placeAt(int node, int minute) {
+    public int placeAt(int node, int minute) throws IndexOutOfBoundsException, IllegalArgumentException {
         requireNode(node);
         requireMinute(minute);
         return sky.placeOf(node, minute);
@@ -86,34 +87,35 @@ public final class Satellitering {
 
     // ---- contacts
 
-    public boolean see(int node, int other, int minute) {
+    public boolean see(int node, int other, int minute) throws IndexOutOfBoundsException, IllegalArgumentException {
         requireTwoNodesAndMinute(node, other, minute);
         return sky.inContact(node, other, minute);
     }
 
-    public int nextContact(int node, int other, int minute) {
+    public int nextContact(int node, int other, int minute) throws IndexOutOfBoundsException, IllegalArgumentException {
         requireTwoNodesAndMinute(node, other, minute);
         return sky.firstContact(node, other, minute);
     }
 
-    public int view(int node, int other, int minute) {
+    public int view(int node, int other, int minute) throws IndexOutOfBoundsException, IllegalArgumentException {
         requireTwoNodesAndMinute(node, other, minute);
         return sky.contactLength(node, other, minute);
     }
 
     // ---- ways in time
 
-    public int arrival(int node, int other, int minute) {
+    public int arrival(int node, int other, int minute) throws IndexOutOfBoundsException, IllegalArgumentException {
         requireTwoNodesAndMinute(node, other, minute);
         return search.byContacts(node, other, minute);
     }
 
-    public int arrivalByFlooding(int node, int other, int minute) {
+    public int arrivalByFlooding(int node, int other, int minute)
+            throws IndexOutOfBoundsException, IllegalArgumentException {
         requireTwoNodesAndMinute(node, other, minute);
         return search.byFlooding(node, other, minute);
     }
 
-    public int spread(int node, int minute, int later) {
+    public int spread(int node, int minute, int later) throws IndexOutOfBoundsException, IllegalArgumentException {
         requireNode(node);
         requireMinute(minute);
         requireArgument(inRange(later, 0, HORIZON));
@@ -122,7 +124,8 @@ public final class Satellitering {
 
     // ---- messages
 
-    public int send(int station, int other) {
+    public int send(int station, int other)
+            throws IndexOutOfBoundsException, IllegalArgumentException, IllegalStateException {
         Station from = requireStation(station);
         Station to = requireStation(other);
         requireArgument(from != to);
@@ -135,7 +138,7 @@ public final class Satellitering {
         return number;
     }
 
-    public int pass(int minutes) {
+    public int pass(int minutes) throws IllegalArgumentException, IllegalStateException {
         requireArgument(inRange(minutes, 1, MAX_PASS));
         if (now + minutes > LAST_MINUTE) {
             throw new IllegalStateException("now would be above 1000000");
@@ -155,11 +158,11 @@ public final class Satellitering {
         return sentCount;
     }
 
-    public int nodeOf(int message) {
+    public int nodeOf(int message) throws IndexOutOfBoundsException {
         return requireMessage(message).node;
     }
 
-    public int arrivedAt(int message) {
+    public int arrivedAt(int message) throws IndexOutOfBoundsException, java.util.NoSuchElementException {
         Message asked = requireMessage(message);
         if (!asked.isAtGoal()) {
             throw new NoSuchElementException("the message has not arrived");
@@ -167,38 +170,38 @@ public final class Satellitering {
         return asked.since;
     }
 
-    public int hops(int message) {
+    public int hops(int message) throws IndexOutOfBoundsException {
         return requireMessage(message).hopCount;
     }
 
-    public int hopNode(int message, int hop) {
+    public int hopNode(int message, int hop) throws IndexOutOfBoundsException {
         Message asked = requireMessage(message);
         requireHop(asked, hop);
         return asked.hopNodes[hop];
     }
 
-    public int hopMinute(int message, int hop) {
+    public int hopMinute(int message, int hop) throws IndexOutOfBoundsException {
         Message asked = requireMessage(message);
         requireHop(asked, hop);
         return asked.hopMinutes[hop];
     }
 
-    public int blocked(int message) {
+    public int blocked(int message) throws IndexOutOfBoundsException {
         return requireMessage(message).blocks;
     }
 
-    public int load(int node) {
+    public int load(int node) throws IndexOutOfBoundsException {
         requireNode(node);
         return messagesAt(node);
     }
 
     // ---- serving
 
-    public int relayOf(int station) {
+    public int relayOf(int station) throws IndexOutOfBoundsException {
         return requireStation(station).relay;
     }
 
-    public int handovers(int station) {
+    public int handovers(int station) throws IndexOutOfBoundsException {
         return requireStation(station).handoverCount;
     }
 

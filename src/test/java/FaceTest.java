@@ -10,13 +10,36 @@ import java.util.TreeSet;
 
 /** The public face is that of the document, and the source keeps to what of LANGUAGE.md can be told by its words. */
 public final class FaceTest {
+    private static final String INDEX = "java.lang.IndexOutOfBoundsException";
+    private static final String ARGUMENT = "java.lang.IllegalArgumentException";
+    private static final String STATE = "java.lang.IllegalStateException";
+    private static final String ELEMENT = "java.util.NoSuchElementException";
+    /** The methods of the document's code block, each with its exceptions in the document's order. */
     private static final String[] FACE = {
-        "int addStation(int)", "int addRelay(int,int,int,int)", "int setCapacity(int,int)", "int nodes()",
-        "int placeAt(int,int)", "boolean see(int,int,int)", "int nextContact(int,int,int)",
-        "int view(int,int,int)", "int arrival(int,int,int)", "int arrivalByFlooding(int,int,int)",
-        "int spread(int,int,int)", "int send(int,int)", "int pass(int)", "int now()", "int messages()",
-        "int nodeOf(int)", "int arrivedAt(int)", "int hops(int)", "int hopNode(int,int)",
-        "int hopMinute(int,int)", "int blocked(int)", "int load(int)", "int relayOf(int)", "int handovers(int)"};
+        "public int addStation(int) throws " + ARGUMENT + "," + STATE,
+        "public int addRelay(int,int,int,int) throws " + ARGUMENT + "," + STATE,
+        "public int setCapacity(int,int) throws " + INDEX + "," + ARGUMENT,
+        "public int nodes()",
+        "public int placeAt(int,int) throws " + INDEX + "," + ARGUMENT,
+        "public boolean see(int,int,int) throws " + INDEX + "," + ARGUMENT,
+        "public int nextContact(int,int,int) throws " + INDEX + "," + ARGUMENT,
+        "public int view(int,int,int) throws " + INDEX + "," + ARGUMENT,
+        "public int arrival(int,int,int) throws " + INDEX + "," + ARGUMENT,
+        "public int arrivalByFlooding(int,int,int) throws " + INDEX + "," + ARGUMENT,
+        "public int spread(int,int,int) throws " + INDEX + "," + ARGUMENT,
+        "public int send(int,int) throws " + INDEX + "," + ARGUMENT + "," + STATE,
+        "public int pass(int) throws " + ARGUMENT + "," + STATE,
+        "public int now()",
+        "public int messages()",
+        "public int nodeOf(int) throws " + INDEX,
+        "public int arrivedAt(int) throws " + INDEX + "," + ELEMENT,
+        "public int hops(int) throws " + INDEX,
+        "public int hopNode(int,int) throws " + INDEX,
+        "public int hopMinute(int,int) throws " + INDEX,
+        "public int blocked(int) throws " + INDEX,
+        "public int load(int) throws " + INDEX,
+        "public int relayOf(int) throws " + INDEX,
+        "public int handovers(int) throws " + INDEX};
     private static final String[] FORBIDDEN = {
         "package ", "->", "::", "catch", "finally", "synchronized", "assert ", "Exact(", "Thread", "System.out", "System.err", "System.exit", "System.nano", "System.current",
         "Random", "Object", "lambda", "import java.util.Arrays.", "while (true)", "for (;;)", "import static"};
@@ -51,20 +74,39 @@ public final class FaceTest {
         for (Field field : face.getDeclaredFields()) {
             boolean open = !Modifier.isPrivate(field.getModifiers());
             Checks.due("the field " + field.getName() + " is open", field.getName().equals("NONE"), open);
+            if (open) {
+                Checks.due("the constant", "public static final int NONE", asText(field));
+            }
+        }
+        Checks.due("NONE", -1, Satellitering.NONE);
+        for (Class<?> inside : face.getDeclaredClasses()) {
+            boolean hidden = Modifier.isStatic(inside.getModifiers())
+                    && (inside.getModifiers() & (Modifier.PUBLIC | Modifier.PROTECTED)) == 0;
+            Checks.due(inside.getName() + " is hidden and static", true, hidden);
         }
         Constructor<?>[] constructors = face.getDeclaredConstructors();
         Checks.due("constructors", 1, constructors.length);
         Checks.due("the constructor's parameters", 0, constructors[0].getParameterCount());
+        Checks.due("the constructor's exceptions", 0, constructors[0].getExceptionTypes().length);
+    }
+
+    private static String asText(Field field) {
+        return Modifier.toString(field.getModifiers()) + " " + field.getType().getName() + " " + field.getName();
     }
 
     private static String asText(Method method) {
+        String text = Modifier.toString(method.getModifiers()) + " " + method.getReturnType().getName()
+                + " " + method.getName() + "(" + names(method.getParameterTypes()) + ")";
+        Class<?>[] exceptions = method.getExceptionTypes();
+        return exceptions.length == 0 ? text : text + " throws " + names(exceptions);
+    }
+
+    private static String names(Class<?>[] classes) {
         StringBuilder text = new StringBuilder();
-        text.append(method.getReturnType().getName()).append(' ').append(method.getName()).append('(');
-        Class<?>[] parameters = method.getParameterTypes();
-        for (int i = 0; i < parameters.length; i++) {
-            text.append(i == 0 ? "" : ",").append(parameters[i].getName());
+        for (int i = 0; i < classes.length; i++) {
+            text.append(i == 0 ? "" : ",").append(classes[i].getName());
         }
-        return text.append(')').toString();
+        return text.toString();
     }
 
     private static void source() throws IOException {
