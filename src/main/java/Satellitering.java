@@ -126,14 +126,14 @@ public final class Satellitering {
 
     public int send(int station, int other)
             throws IndexOutOfBoundsException, IllegalArgumentException, IllegalStateException {
-        Station from = requireStation(station);
-        Station to = requireStation(other);
-        requireArgument(from != to);
+        requireStation(station);
+        Station goal = requireStation(other);
+        requireArgument(station != other);
         if (sentCount >= MAX_MESSAGES) {
             throw new IllegalStateException("there are 20 messages");
         }
         int number = sentCount;
-        sent[number] = new Message(station, other, to.timetable);
+        sent[number] = new Message(station, other, goal.timetable);
         sentCount++;
         return number;
     }

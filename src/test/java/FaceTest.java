@@ -10,6 +10,7 @@ import java.util.TreeSet;
 
 /** The public face is that of the document, and the source keeps to what of LANGUAGE.md can be told by its words. */
 public final class FaceTest {
+    private static final String SOURCE = "src/main/java/Satellitering.java";
     private static final String INDEX = "java.lang.IndexOutOfBoundsException";
     private static final String ARGUMENT = "java.lang.IllegalArgumentException";
     private static final String STATE = "java.lang.IllegalStateException";
@@ -48,6 +49,7 @@ public final class FaceTest {
 
     public static void main(String[] args) throws IOException {
         members();
+        declarations();
         source();
         Checks.end();
     }
@@ -109,8 +111,28 @@ public final class FaceTest {
         return text.toString();
     }
 
+    /** Each line of the document's code block stands in the source to the word. */
+    private static void declarations() throws IOException {
+        String document = Files.readString(Path.of("../shared/DOC.md"));
+        String source = Files.readString(Path.of(SOURCE)).replaceAll("\\s+", " ");
+        int from = document.indexOf("```java\n");
+        int to = document.indexOf("```\n", from + 1);
+        Checks.due("the document has a code block", true, 0 <= from && from < to);
+        int found = 0;
+        for (String line : document.substring(Math.max(from, 0), Math.max(to, 0)).split("\n")) {
+            String due = line.strip();
+            if (due.startsWith("public ")) {
+                found++;
+                // a method goes on with its body
+                due = due.contains(")") ? due.replace(";", " {") : due;
+                Checks.due("the source says: " + due, true, source.contains(due));
+            }
+        }
+        Checks.due("lines of the code block", FACE.length + 3, found);
+    }
+
     private static void source() throws IOException {
-        String source = Files.readString(Path.of("src/main/java/Satellitering.java"));
+        String source = Files.readString(Path.of(SOURCE));
         for (String word : FORBIDDEN) {
             Checks.due("the source holds " + word, false, source.contains(word));
         }

@@ -186,7 +186,26 @@ public final class WayEdgesTest {
         Checks.due("load(2), full", 1, x.load(2));
         arrival("by a relay that is full", 3, x, 0, 1, 1);
         arrival("to a relay that is full", 2, x, 0, 2, 1);
+        arrival("from a relay that is full", 2, x, 2, 1, 1);
         spread("by a relay that is full", 3, x, 0, 1, 2);
+        spread("from a relay that is full", 3, x, 2, 1, 1);
+        // nor does it matter at which minute, and how many messages wait, are on their way or have arrived
+        Satellitering empty = chain(3);
+        Satellitering full = chain(3);
+        for (int i = 0; i < 20; i++) {
+            full.send(i % 2, 1 - i % 2);
+        }
+        for (int now = 0; now < 8; now++) {
+            for (int node = 0; node < 5; node++) {
+                for (int other = 0; other < 5; other++) {
+                    arrival("with full relays", empty.arrival(node, other, now), full, node, other, now);
+                }
+                for (int later = 0; later <= 4; later++) {
+                    spread("with full relays", empty.spread(node, now, later), full, node, now, later);
+                }
+            }
+            full.pass(1);
+        }
     }
 
     /** "NONE if there is none": out of sight, and by a relay that sees only one of the two. */
